@@ -522,6 +522,7 @@ public final class Clockhouse {
         private final Row delays = new Row();
         private final Row times = new Row();
         private int count;
+        private int best;
         private int level;
         private int clockError;
         private long rootDelay;
@@ -537,6 +538,7 @@ public final class Clockhouse {
 
         void forget() {
             count = 0;
+            best = 0;
         }
 
         int kept() {
@@ -562,21 +564,22 @@ public final class Clockhouse {
             delays.push(delay);
             times.push(time);
             count = Math.min(count + 1, MOST_SAMPLES);
+            best = leastDelay();
         }
 
         long bestOffset() {
-            return offsets.get(best());
+            return offsets.get(best);
         }
 
         long bestDelay() {
-            return delays.get(best());
+            return delays.get(best);
         }
 
         long offsetJitter() {
             if (count < 2) {
                 return 0;
             }
-            long middle = bestOffset();
+            long middle = offsets.get(best);
             long sum = 0;
             for (int i = 0; i < count; i++) {
                 sum += Math.abs(offsets.get(i) - middle);
@@ -585,12 +588,12 @@ public final class Clockhouse {
         }
 
         long distanceAt(long reading) {
-            long age = reading - times.get(best());
+            long age = reading - times.get(best);
             return rootDelay / 2 + bestDelay() / 2 + rootDispersion + offsetJitter()
                     + Math.floorDiv(AGING * age, MILLION);
         }
 
-        private int best() {
+        private int leastDelay() {
             int found = 0;
             for (int i = 1; i < count; i++) {
                 if (delays.get(i) < delays.get(found)) {

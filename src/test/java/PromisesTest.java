@@ -31,8 +31,10 @@ public final class PromisesTest {
         lowAndHigh();
         survivors();
         survivorsWithJitter();
+        survivorsWithJitterOfTheFirst();
         combinedOffset();
         peer();
+        askedAlone();
         nothingSelected();
         synchronizeBySlewing();
         synchronizeByStepping();
@@ -132,6 +134,7 @@ public final class PromisesTest {
         dueAsNew("restart(-700)", x, -700);
         checks.due("pass(1000000) goes at the plain rate", 999300, x.pass(1000000));
         checks.due("announceLeap(0, false) is free again", 66400000000L, x.announceLeap(0, false));
+        checks.due("announceLeap(1, true) is free again", 152800000000L, x.announceLeap(1, true));
         checks.due("addServer is 0 again", 0, x.addServer(2, 0, 0, 0));
         checks.due("samples(0)", 0, x.samples(0));
         x.exchange(0, 0, 0, 0);
@@ -685,6 +688,24 @@ public final class PromisesTest {
         checks.due("survivors(), the jitter 0 is of no survivor", 15, y.survivors());
     }
 
+    private static void survivorsWithJitterOfTheFirst() {
+        checks.promise("promise 26");
+        int[] jitters = {28, 29, 30};
+        int[] due = {7, 15, 15};
+        for (int n = 0; n < jitters.length; n++) {
+            Clockhouse x = new Clockhouse();
+            int[] offsets = {0, 0, 1, 30};
+            for (int s = 0; s < 4; s++) {
+                heard(x, 1, offsets[s], 5000);
+            }
+            for (int s = 0; s < 4; s++) {
+                x.setError(s, offsets[s] + (s == 0 ? jitters[n] : 700));
+                x.exchange(s, 1, 0, 1);
+            }
+            checks.due("survivors() of spread 89 / 3, jitter " + jitters[n], due[n], x.survivors());
+        }
+    }
+
     private static void combinedOffset() {
         checks.promise("promise 27");
         Clockhouse x = new Clockhouse();
@@ -703,6 +724,9 @@ public final class PromisesTest {
         checks.due("combinedOffset() of weights 2 and 1", 100000, z.combinedOffset());
         heard(z, 1, 300000, 999998);
         checks.due("combinedOffset() of weights 2, 1 and 1", 150000, z.combinedOffset());
+        Clockhouse v = new Clockhouse();
+        heard(v, 1, -77, 1000000);
+        checks.due("combinedOffset() of weight 1", -77, v.combinedOffset());
         Clockhouse w = new Clockhouse();
         heard(w, 1, -600, 333332);
         heard(w, 1, 0, 333333);
@@ -732,6 +756,36 @@ public final class PromisesTest {
         heard(y, 2, 0, 1000);
         heard(y, 2, 0, 999);
         checks.due("peer(), the clustering took the first", 3, y.peer());
+    }
+
+    private static Clockhouse twoThatAgree() {
+        Clockhouse x = new Clockhouse();
+        heard(x, 2, -10, 100);
+        heard(x, 3, 900, 100);
+        heard(x, 1, 30, 100);
+        return x;
+    }
+
+    /** Each asked on an object that was asked nothing before. */
+    private static void askedAlone() {
+        checks.promise("promise 21");
+        checks.due("agreement()", 2, twoThatAgree().agreement());
+        checks.promise("promise 22");
+        checks.due("hasMajority()", true, twoThatAgree().hasMajority());
+        checks.promise("promise 23");
+        checks.due("agreeing()", 5, twoThatAgree().agreeing());
+        checks.promise("promise 24");
+        checks.due("low()", -70, twoThatAgree().low());
+        checks.promise("promise 25");
+        checks.due("high()", 90, twoThatAgree().high());
+        checks.promise("promise 26");
+        checks.due("survivors()", 5, twoThatAgree().survivors());
+        checks.promise("promise 27");
+        checks.due("combinedOffset()", 10, twoThatAgree().combinedOffset());
+        checks.promise("promise 28");
+        checks.due("peer()", 2, twoThatAgree().peer());
+        checks.promise("promise 29");
+        checks.due("synchronize()", Clockhouse.SLEWED, twoThatAgree().synchronize());
     }
 
     private static void nothingSelected() {
@@ -836,6 +890,14 @@ public final class PromisesTest {
         z.synchronize();
         z.pass(999000);
         checks.due("clock(), a step keeps the picoseconds", 1500001, z.clock());
+        Clockhouse w = new Clockhouse();
+        w.setDrift(-1);
+        heard(w, 1, 7, 0);
+        w.synchronize();
+        w.setError(0, 200000);
+        w.exchange(0, 0, 0, 0);
+        w.synchronize();
+        checks.due("pass(1) of 999999 picoseconds, and not one more", 200000, w.pass(1));
     }
 
     /** The correction that a second synchronization by this offset makes, so long after the first. */
