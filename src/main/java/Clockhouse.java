@@ -112,10 +112,7 @@ public final class Clockhouse {
     }
 
     public int setError(int server, int error) throws IndexOutOfBoundsException, IllegalArgumentException {
-        Server found = serverOrNull(server);
-        if (found == null) {
-            throw new IndexOutOfBoundsException();
-        }
+        Server found = knownServer(server);
         if (!isServerError(error)) {
             throw new IllegalArgumentException();
         }
@@ -124,10 +121,7 @@ public final class Clockhouse {
 
     public long exchange(int server, int out, int processing, int back)
             throws IndexOutOfBoundsException, IllegalArgumentException, IllegalStateException {
-        Server found = serverOrNull(server);
-        if (found == null) {
-            throw new IndexOutOfBoundsException();
-        }
+        Server found = knownServer(server);
         if (!isWithin(out, 0, 500000) || !isWithin(processing, 0, 100000) || !isWithin(back, 0, 500000)) {
             throw new IllegalArgumentException();
         }
@@ -142,55 +136,23 @@ public final class Clockhouse {
     }
 
     public int samples(int server) throws IndexOutOfBoundsException {
-        Server found = serverOrNull(server);
-        if (found == null) {
-            throw new IndexOutOfBoundsException();
-        }
-        return found.kept();
+        return knownServer(server).kept();
     }
 
     public long offset(int server) throws IndexOutOfBoundsException, IllegalStateException {
-        Server found = serverOrNull(server);
-        if (found == null) {
-            throw new IndexOutOfBoundsException();
-        }
-        if (found.kept() == 0) {
-            throw new IllegalStateException();
-        }
-        return found.bestOffset();
+        return heardServer(server).bestOffset();
     }
 
     public long delay(int server) throws IndexOutOfBoundsException, IllegalStateException {
-        Server found = serverOrNull(server);
-        if (found == null) {
-            throw new IndexOutOfBoundsException();
-        }
-        if (found.kept() == 0) {
-            throw new IllegalStateException();
-        }
-        return found.bestDelay();
+        return heardServer(server).bestDelay();
     }
 
     public long jitter(int server) throws IndexOutOfBoundsException, IllegalStateException {
-        Server found = serverOrNull(server);
-        if (found == null) {
-            throw new IndexOutOfBoundsException();
-        }
-        if (found.kept() == 0) {
-            throw new IllegalStateException();
-        }
-        return found.offsetJitter();
+        return heardServer(server).offsetJitter();
     }
 
     public long distance(int server) throws IndexOutOfBoundsException, IllegalStateException {
-        Server found = serverOrNull(server);
-        if (found == null) {
-            throw new IndexOutOfBoundsException();
-        }
-        if (found.kept() == 0) {
-            throw new IllegalStateException();
-        }
-        return found.distanceAt(oscillator.reading());
+        return heardServer(server).distanceAt(oscillator.reading());
     }
 
     // ---- selection
@@ -211,18 +173,12 @@ public final class Clockhouse {
     }
 
     public long low() throws IllegalStateException {
-        select();
-        if (selection.isEmpty()) {
-            throw new IllegalStateException();
-        }
+        selectFromSome();
         return selection.lowEnd();
     }
 
     public long high() throws IllegalStateException {
-        select();
-        if (selection.isEmpty()) {
-            throw new IllegalStateException();
-        }
+        selectFromSome();
         return selection.highEnd();
     }
 
@@ -232,10 +188,7 @@ public final class Clockhouse {
     }
 
     public long combinedOffset() throws IllegalStateException {
-        select();
-        if (selection.isEmpty()) {
-            throw new IllegalStateException();
-        }
+        selectFromSome();
         return selection.weightedOffset();
     }
 
@@ -311,6 +264,22 @@ public final class Clockhouse {
         return server < serverCount ? roomOrNull(server) : null;
     }
 
+    private Server knownServer(int server) {
+        Server found = serverOrNull(server);
+        if (found == null) {
+            throw new IndexOutOfBoundsException();
+        }
+        return found;
+    }
+
+    private Server heardServer(int server) {
+        Server found = knownServer(server);
+        if (found.kept() == 0) {
+            throw new IllegalStateException();
+        }
+        return found;
+    }
+
     private long takeSample(Server server, int out, int processing, int back) {
         long sent = oscillator.reading();
         elapse(out);
@@ -337,6 +306,13 @@ public final class Clockhouse {
         }
         selection.intersect();
         selection.cluster();
+    }
+
+    private void selectFromSome() {
+        select();
+        if (selection.isEmpty()) {
+            throw new IllegalStateException();
+        }
     }
 
     private void correctRate(long offset) {
@@ -743,10 +719,12 @@ public final class Clockhouse {
         }
 
         private long leastJitter() {
-            long least = Long.MAX_VALUE;
+            long least = 0;
+            boolean isFound = false;
             for (int s = 0; s < MOST_SERVERS; s++) {
-                if (contains(survivorSet, s)) {
-                    least = Math.min(least, jitters.get(s));
+                if (contains(survivorSet, s) && (!isFound || jitters.get(s) < least)) {
+                    least = jitters.get(s);
+                    isFound = true;
                 }
             }
             return least;

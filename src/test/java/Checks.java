@@ -39,6 +39,13 @@ final class Checks {
         });
     }
 
+    void dueNoThrow(String call, Runnable made) {
+        due(call, "0", outcome(() -> {
+            made.run();
+            return 0;
+        }));
+    }
+
     /** The answer as a text, or the name of the exception; one of the machine's own stays visible by its name. */
     static String outcome(Call made) {
         try {
@@ -55,6 +62,10 @@ final class Checks {
             failed++;
             System.out.println(promise + ": " + message);
         }
+    }
+
+    int made() {
+        return passed + failed;
     }
 
     void end(String test) {

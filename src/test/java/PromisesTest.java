@@ -1,10 +1,5 @@
 /** Each promise of the document by itself: ordinary inputs, the edges it names, wrong inputs. */
-public final class PromisesTest {
-    private static final Class<IllegalArgumentException> ARGUMENT = IllegalArgumentException.class;
-    private static final Class<IllegalStateException> STATE = IllegalStateException.class;
-    private static final Class<IndexOutOfBoundsException> INDEX = IndexOutOfBoundsException.class;
-    private static final int[] NO_SERVERS = {Integer.MIN_VALUE, -1, 1, 2, 7, 8, 9, Integer.MAX_VALUE};
-
+public final class PromisesTest extends Scenes {
     private static final Checks checks = new Checks();
 
     public static void main(String[] args) {
@@ -43,29 +38,6 @@ public final class PromisesTest {
         peerOfASynchronization();
         failedCallsChangeNothing();
         checks.end("PromisesTest");
-    }
-
-    // ---- helpers
-
-    /** A server whose sample, taken in no time, has the offset and the distance told (while the clock is right). */
-    private static int heard(Clockhouse x, int stratum, int offset, int distance) {
-        int server = x.addServer(stratum, offset, 0, distance);
-        x.exchange(server, 0, 0, 0);
-        return server;
-    }
-
-    private static void passMany(Clockhouse x, int times, int micros) {
-        for (int i = 0; i < times; i++) {
-            x.pass(micros);
-        }
-    }
-
-    /** One server whose offset is told; the clock is synchronized by it. */
-    private static Clockhouse synchronizedBy(int offset) {
-        Clockhouse x = new Clockhouse();
-        heard(x, 1, offset, 0);
-        x.synchronize();
-        return x;
     }
 
     // ---- time
@@ -421,7 +393,7 @@ public final class PromisesTest {
         y.addServer(1, 40, 0, 0);
         checks.due("exchange(0, 100000, 100000, 200000)", 300120, y.exchange(0, 100000, 100000, 200000));
         checks.promise("promise 17");
-        checks.due("offset(0) of (105040 - 195080) / 2 less the clock's", (105040L + 200040L - 395120L) / 2, y.offset(0));
+        checks.due("offset(0) of (105040 - 195080) / 2 less the clock's", (105040 + 200040 - 395120) / 2, y.offset(0));
         checks.promise("promise 14");
         Clockhouse z = synchronizedBy(100);
         checks.due("exchange in a slew", 60000 + 30, z.exchange(0, 20000, 0, 40000));
@@ -900,14 +872,8 @@ public final class PromisesTest {
         checks.due("pass(1) of 999999 picoseconds, and not one more", 200000, w.pass(1));
     }
 
-    /** The correction that a second synchronization by this offset makes, so long after the first. */
     private static int correctionBy(int offset, int interval) {
-        Clockhouse x = synchronizedBy(0);
-        x.pass(interval);
-        x.setError(0, offset);
-        x.exchange(0, 0, 0, 0);
-        x.synchronize();
-        return x.correction();
+        return correctedBy(offset, interval).correction();
     }
 
     private static void correctionOfTheRate() {
@@ -986,22 +952,6 @@ public final class PromisesTest {
         checks.due("peer() before", 0, y.peer());
         checks.due("synchronize()", Clockhouse.STEPPED, y.synchronize());
         checks.due("stratum() by the peer when the clock was stepped", 2, y.stratum());
-    }
-
-    private static String stateOf(Clockhouse x) {
-        StringBuilder state = new StringBuilder();
-        long[] plain = {x.trueTime(), x.clock(), x.error(), x.pendingSlew(), x.correction(), x.civil(), x.servers(),
-            x.agreement(), x.agreeing(), x.survivors(), x.peer(), x.stratum(), x.steps(), x.synchronizations()};
-        for (long value : plain) {
-            state.append(value).append(' ');
-        }
-        for (int s = 0; s < x.servers(); s++) {
-            int server = s;
-            state.append(x.samples(s)).append(' ');
-            state.append(Checks.outcome(() -> x.offset(server))).append(' ');
-            state.append(Checks.outcome(() -> x.distance(server))).append(' ');
-        }
-        return state.toString();
     }
 
     private static void failedCallsChangeNothing() {

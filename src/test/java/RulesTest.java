@@ -10,7 +10,7 @@ import java.util.regex.Pattern;
 /** What of ../shared/LANGUAGE.md can be seen in the words of the source. Run it from the project's directory. */
 public final class RulesTest {
     private static final Set<String> LIBRARY = Set.of("Math.floorDiv", "Math.max", "Math.min", "Math.abs",
-            "Integer.bitCount", "Long.MAX_VALUE");
+            "Integer.bitCount");
     private static final Set<String> EXCEPTIONS = Set.of("IllegalArgumentException", "IllegalStateException",
             "IndexOutOfBoundsException");
     private static final String[] NOT_USED = {"\\bimport\\b", "\\bpackage\\b", "->", "::", "\\btry\\b", "\\bcatch\\b",
